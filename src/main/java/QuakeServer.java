@@ -29,6 +29,10 @@ public final class QuakeServer {
   private static final int FLY = 1;
   private static final int TOSS = 2;
   private static final int BOUNCE = 3;
+  private static final int FALL_EIGHTHS = 8 * EIGHTHS;
+  private static final int TICKS_A_TIME = 8;
+  private static final int LEAST_SIZE_EIGHTHS = EIGHTHS;
+  private static final int GREATEST_SIZE_EIGHTHS = 32 * EIGHTHS;
 
   private static final int AXIS_X = 0;
   private static final int AXIS_Y = 1;
@@ -346,7 +350,8 @@ public final class QuakeServer {
     }
 
     private int sizeUsed(int entity) {
-      return Math.max(EIGHTHS, Math.min(32 * EIGHTHS, field(entity, SIZE)));
+      int size = field(entity, SIZE);
+      return Math.max(LEAST_SIZE_EIGHTHS, Math.min(GREATEST_SIZE_EIGHTHS, size));
     }
 
     boolean boxesOverlap(int one, int two, int axis) {
@@ -600,8 +605,7 @@ public final class QuakeServer {
     void takeTurn(int entity) {
       int move = entities.wholeField(entity, MOVE);
       if (move == TOSS || move == BOUNCE) {
-        int fallen = entities.field(entity, VY) - 8 * EIGHTHS;
-        entities.put(entity, VY, inRange(fallen));
+        entities.put(entity, VY, inRange(entities.field(entity, VY) - FALL_EIGHTHS));
       }
       if (move == FLY || move == TOSS || move == BOUNCE) {
         travel(entity, AXIS_X);
@@ -626,7 +630,7 @@ public final class QuakeServer {
     /** Answers what is hit: an entity, the WORLD or NOTHING. */
     private int go(int entity, int axis) {
       int velocity = entities.field(entity, VX + axis);
-      int way = Math.floorDiv(velocity, 8);
+      int way = Math.floorDiv(velocity, TICKS_A_TIME);
       if (way == 0) {
         return NOTHING;
       }

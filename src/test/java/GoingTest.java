@@ -15,6 +15,7 @@ public final class GoingTest {
     placesStayInRange();
     kindsOfMove();
     hitsOnlyWithinTheWay();
+    entitiesOnAllSides();
     sizesAreBroughtInRange();
     sidesThatOnlyMeetDoNotOverlap();
     whatIsBehindDoesNotBlock();
@@ -118,6 +119,28 @@ public final class GoingTest {
     server.tick(1);
     Check.due("a hit at the distance 0", 1, server.count(6));
     Check.due("it stays", 10, server.get(0, X));
+  }
+
+  private static void entitiesOnAllSides() {
+    double[][] ways = {{800, 0, 44, 0}, {-800, 0, -44, 0}, {0, 800, 0, 44}, {0, -800, 0, -44}};
+    for (double[] way : ways) {
+      QuakeServer server = flyer(0, 0, way[0], way[1]);
+      block(server, 50, 0, 5);
+      block(server, -50, 0, 5);
+      block(server, 0, 50, 5);
+      block(server, 0, -50, 5);
+      server.tick(1);
+      Check.due("x at the entity's side", way[2], server.get(0, X));
+      Check.due("y at the entity's side", way[3], server.get(0, Y));
+      Check.due("one hit", 1, server.count(6));
+    }
+    QuakeServer near = flyer(0, 0, 2, 0);
+    block(near, 6.125, 0, 5);
+    near.tick(1);
+    Check.due("a way of two eighths stops behind one", 0.125, near.get(0, X));
+    near.set(0, VX, 1);
+    near.tick(1);
+    Check.due("a way of one eighth is blocked", 0.125, near.get(0, X));
   }
 
   private static void sizesAreBroughtInRange() {

@@ -175,6 +175,8 @@ public final class RunTest {
     for (int number = 0; number < 12; number++) {
       server.spawn(0, 0, 0);
     }
+    server.run(0, 0, 0);
+    Check.due("behind a number below 0 the first is 0", 0, server.global(1));
     for (int gone : new int[] {0, 2, 3, 11}) {
       server.remove(gone);
     }
@@ -250,6 +252,9 @@ public final class RunTest {
     Check.due("the call that is too deep is done", 8, server.run(0, 0, 0));
     Check.due("a runaway", 1, server.count(3));
     Check.due("nothing behind it is done", 0, server.global(7));
+    server.setGlobal(6, 0);
+    Check.due("the next run is not stopped by it", 8, server.run(0, 0, 0));
+    Check.due("nor a runaway", 1, server.count(3));
     QuakeServer inTurn = new QuakeServer();
     for (int place = 0; place < 14; place++) {
       inTurn.instr(0, 11, 1, 0, 0);

@@ -16,6 +16,7 @@ public final class TickTest {
     triggersTouch();
     whoTouchesTriggers();
     triggersInTurn();
+    triggersOfAnyNumber();
     thinking();
     thinkingBehindMoving();
     turnsByRisingNumbers();
@@ -138,6 +139,22 @@ public final class TickTest {
     next.instr(0, 13, 1, 0, 0);
     Check.due("the next trigger is gone", 2, next.tick(1));
     Check.due("and has no run", 1, next.count(5));
+  }
+
+  private static void triggersOfAnyNumber() {
+    for (int mover = 0; mover < 12; mover++) {
+      QuakeServer server = new QuakeServer();
+      server.instr(0, 6, 20, 0, 0);
+      for (int entity = 0; entity < 12; entity++) {
+        server.spawn(0, 0, 1);
+        server.set(entity, SOLID, entity == mover ? 0 : 1);
+        server.set(entity, TOUCH, 1);
+      }
+      server.set(mover, MOVE, 1);
+      server.tick(1);
+      Check.due("all others are touched", 11, server.count(5));
+      Check.due("the last one last", mover == 11 ? 80 : 88, server.global(0));
+    }
   }
 
   private static void thinking() {
