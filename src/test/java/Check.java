@@ -7,8 +7,14 @@ final class Check {
   }
 
   private static int wrong = 0;
+  private static String sentence = "";
 
   private Check() {}
+
+  /** The document's words that the checks from here on are about; they are told if one fails. */
+  static void sentence(String words) {
+    sentence = words;
+  }
 
   /** The call answers what is due. */
   static void due(String what, double want, double got) {
@@ -41,7 +47,7 @@ final class Check {
 
   static void fail(String text) {
     wrong++;
-    System.out.println(text);
+    System.out.println(sentence.isEmpty() ? text : text + "\n    by: " + sentence);
   }
 
   /** To be called at the end of every test's main method. */

@@ -1,12 +1,13 @@
 import java.util.Random;
 
 /**
- * Runs of 512 calls, the same ones each time, on the class and on the plain model: every answer,
- * and all of the state behind each run, must be the same.
+ * Runs of 512 calls, the same ones each time, on the class and on the plain model: every answer
+ * must be the same. In every other run the last calls ask for all of the state.
  */
 public final class RandomRunsTest {
   private static final int RUNS = 3000;
   private static final int CALLS = 512;
+  private static final int CALLS_FOR_ALL = 7 + 24 + 12 * 16 + 109;
   private static final String[] WHAT = {
     "entities", "walls", "time", "runaways", "state of the draws", "runs", "hits"
   };
@@ -28,7 +29,7 @@ public final class RandomRunsTest {
       RandomRunsTest run = new RandomRunsTest(seed);
       run.make();
       for (int what = 0; what < WHAT.length; what++) {
-        reached[what] += run.server.count(what);
+        reached[what] += run.model.count(what);
       }
     }
     // Runs in which nothing happens would prove nothing.
@@ -41,12 +42,14 @@ public final class RandomRunsTest {
   }
 
   private void make() {
-    for (int call = 0; call < CALLS && !wrong; call++) {
+    boolean askForAll = seed % 2 == 0;
+    int calls = askForAll ? CALLS - CALLS_FOR_ALL : CALLS;
+    for (int call = 0; call < calls && !wrong; call++) {
       double chance = call < 90 ? random.nextDouble() * 0.7 : random.nextDouble();
       anyCall(call, chance);
     }
-    if (!wrong) {
-      compareAll();
+    if (askForAll && !wrong) {
+      compareAll(calls);
     }
   }
 
@@ -91,7 +94,8 @@ public final class RandomRunsTest {
     int e = mostly(0, 11);
     int f = mostly(0, 15);
     int g = mostly(0, 23);
-    int index = random.nextInt(40) - 1;
+    int index = random.nextInt(60) - 1;
+    int what = mostly(0, 6);
     switch (random.nextInt(7)) {
       case 0:
         same(call, "get", () -> server.get(e, f), () -> model.get(e, f));
@@ -109,7 +113,7 @@ public final class RandomRunsTest {
         same(call, "message", server::message, model::message);
         break;
       case 5:
-        same(call, "count", () -> server.count(index), () -> model.count(index));
+        same(call, "count", () -> server.count(what), () -> model.count(what));
         break;
       default:
         same(call, "remove", () -> server.remove(e), () -> model.remove(e));
@@ -192,23 +196,23 @@ public final class RandomRunsTest {
     }
   }
 
-  private void compareAll() {
+  private void compareAll(int call) {
     for (int i = 0; i < 7; i++) {
       int what = i;
-      same(CALLS, WHAT[i], () -> server.count(what), () -> model.count(what));
+      same(call, WHAT[i], () -> server.count(what), () -> model.count(what));
     }
     for (int i = 0; i < 24; i++) {
       int global = i;
-      same(CALLS, "global " + i, () -> server.global(global), () -> model.global(global));
+      same(call, "global " + i, () -> server.global(global), () -> model.global(global));
     }
     for (int i = 0; i < 12 * 16; i++) {
       int entity = i / 16;
       int field = i % 16;
-      same(CALLS, "field " + i, () -> server.get(entity, field), () -> model.get(entity, field));
+      same(call, "field " + i, () -> server.get(entity, field), () -> model.get(entity, field));
     }
     for (int i = 0; i < 109; i++) {
       int index = i;
-      same(CALLS, "change " + i, () -> server.change(index), () -> model.change(index));
+      same(call, "change " + i, () -> server.change(index), () -> model.change(index));
     }
   }
 }
