@@ -148,6 +148,7 @@ public final class RefusedCallsTest {
   /** All that can be asked, and what a wall, an instruction and a tick more lead to. */
   private static List<String> answers(QuakeServer server) {
     List<String> answers = new ArrayList<>();
+    countsAndGlobals(answers, server);
     answer(answers, "changes", server::changes);
     for (int i = 0; i < 109; i++) {
       int index = i;
@@ -162,6 +163,16 @@ public final class RefusedCallsTest {
     answer(answers, "wall", () -> server.wall(5, 5, 6, 6));
     answer(answers, "spawn", () -> server.spawn(1, 2, 3));
     answer(answers, "tick again", () -> server.tick(4));
+    countsAndGlobals(answers, server);
+    for (int i = 0; i < 12 * 16; i++) {
+      int entity = i / 16;
+      int field = i % 16;
+      answer(answers, "field " + field + " of " + entity, () -> server.get(entity, field));
+    }
+    return answers;
+  }
+
+  private static void countsAndGlobals(List<String> answers, QuakeServer server) {
     for (int i = 0; i < 7; i++) {
       int what = i;
       answer(answers, "count " + what, () -> server.count(what));
@@ -170,12 +181,6 @@ public final class RefusedCallsTest {
       int global = i;
       answer(answers, "global " + global, () -> server.global(global));
     }
-    for (int i = 0; i < 12 * 16; i++) {
-      int entity = i / 16;
-      int field = i % 16;
-      answer(answers, "field " + field + " of " + entity, () -> server.get(entity, field));
-    }
-    return answers;
   }
 
   private static void answer(List<String> answers, String what, Check.Call call) {
